@@ -279,7 +279,7 @@ public final class MonsterCot {
         if (!search.findLeast()) {
             return NONE;
         }
-        return what == 0 ? search.most : search.row;
+        return what == 0 ? search.most : search.found;
     }
 
     public int best(int pages, int what) {
@@ -303,7 +303,7 @@ public final class MonsterCot {
             return NONE;
         }
         search.findRoster(book);
-        return what == 0 ? search.row : search.most;
+        return what == 0 ? search.found : search.most;
     }
 
     public int seen(int book, int pages, int house, int v, boolean had) {
@@ -502,11 +502,11 @@ public final class MonsterCot {
     }
 
     private static int within(int low, int value, int high) {
-        return Math.max(low, Math.min(value, high));
+        return value < low ? low : value > high ? high : value;
     }
 
     private static int heldCalm(int calm) {
-        return within(0, calm, MOST_CALM);
+        return calm < 0 ? 0 : calm > MOST_CALM ? MOST_CALM : calm;
     }
 
     /** An element by an index that may be none: 0 then, so that no index is ever used untested. */
@@ -584,7 +584,7 @@ public final class MonsterCot {
 
         /** The next sign that is no blank; the mark stands at it then. */
         char sign() {
-            for (int i = Math.max(mark, 0); i < size && i < signs.length; i++) {
+            for (int i = mark; i >= 0 && i < size && i < signs.length; i++) {
                 mark = i;
                 if (signs[i] != ' ') {
                     return signs[i];
@@ -1550,55 +1550,62 @@ public final class MonsterCot {
 
         final Ways ways;
         final Land land;
+        final Laws laws;
         final Bed bed;
         /** How BORED by each KIND at the place where a search stands. */
         final int[] bored = new int[KINDS];
         /** By 10 times x and y of a GAME: 1, if CALM is ENOUGH then. */
         final int[] enoughs = new int[100];
         /** What was found: the row, and the pages of LEAST or the sleepers of ROSTER. */
-        int row;
+        int found;
         int most;
         int rosterBook;
 
         Search(Ways ways, Bed bed) {
             this.ways = ways;
             this.land = ways.land;
+            this.laws = ways.laws;
             this.bed = bed;
         }
 
         boolean findLeast() {
-            row = 0;
+            found = 0;
             most = MOST_IN_ROW * MOST_PAGES + 1;
             copy(bed.bored, bored);
             growRow(1, 0, 0, 0, bed.calm);
-            return row > 0;
+            return found > 0;
         }
 
         /** Rows with one BOOK more than that one, by which CALM is not ENOUGH yet. */
         void growRow(int length, int used, int ahead, int pagesAhead, int calmAhead) {
-            int left = ways.leftOf(bed, bed.where) - pagesAhead;
             for (int book = 0; book < land.books(); book++) {
-                if (((used | bed.readBooks) >> book & 1) != 0) {
-                    continue;
+                if (((used | bed.readBooks) >> book & 1) == 0) {
+                    growRowBy(book, length, used | 1 << book, ahead, pagesAhead, calmAhead);
                 }
-                int calm = calmAhead;
-                // Rows of more pages than the best one so far need not be looked at.
-                int pages = Math.min(Math.min(land.pagesOf(book), left), most - pagesAhead);
-                for (int page = 0; page < pages; page++) {
-                    calm = heldCalm(calm + worthInRow(book, page, pagesAhead));
-                    int newRow = ahead * 100 + book * 10 + page + 1;
-                    int together = pagesAhead + page + 1;
-                    if (calm >= land.enough()) {
-                        offerRow(newRow, together);
-                        break;
-                    }
-                    if (length < MOST_IN_ROW && together < most) {
-                        int kind = land.kindOf(book);
-                        int before = at(bored, kind);
-                        put(bored, kind, Ways.moreBored(before));
-                        growRow(length + 1, used | 1 << book, newRow, together, calm);
-                        put(bored, kind, before);
-                    }
+            }
+        }
+
+        void growRowBy(int book, int length, int used, int ahead, int pagesAhead, int calmAhead) {
+            int calming = land.calmingOf(book);
+            int kind = land.kindOf(book);
+            int before = at(bored, kind);
+            int voice = at(bed.voices, bed.where);
+            int tired = at(bed.tired, bed.where) + pagesAhead;
+            int left = Math.min(land.strengthOf(bed.where) - tired, land.pagesOf(book));
+            int enough = land.enough();
+            int calm = calmAhead;
+            // A row of more pages than the best one so far need not be looked at.
+            for (int page = 0; page < left && pagesAhead + page < most; page++) {
+                calm = heldCalm(calm + laws.worthOf(calming, voice, before, page, bed.night, tired + page));
+                int row = ahead * 100 + book * 10 + page + 1;
+                if (calm >= enough) {
+                    offerRow(row, pagesAhead + page + 1);
+                    return;
+                }
+                if (length < MOST_IN_ROW) {
+                    put(bored, kind, Ways.moreBored(before));
+                    growRow(length + 1, used, row, pagesAhead + page + 1, calm);
+                    put(bored, kind, before);
                 }
             }
         }
@@ -1609,14 +1616,14 @@ public final class MonsterCot {
         }
 
         void offerRow(int newRow, int together) {
-            if (together < most || together == most && newRow < row) {
+            if (together < most || together == most && newRow < found) {
                 most = together;
-                row = newRow;
+                found = newRow;
             }
         }
 
         void findRoster(int book) {
-            row = NONE;
+            found = NONE;
             most = NONE;
             rosterBook = book;
             growRoster(0, 0, 0, 0, bed.calm, at(bed.bored, land.kindOf(book)));
@@ -1627,7 +1634,7 @@ public final class MonsterCot {
             if (nights >= land.houses()) {
                 if (sleptAhead > most) {
                     most = sleptAhead;
-                    row = ahead;
+                    found = ahead;
                 }
                 return;
             }
@@ -1650,16 +1657,16 @@ public final class MonsterCot {
 
         /** How many sets of BOOKS bring CALM to just v (i NONE), or the i-th. */
         int setsFor(int v, int i) {
-            int found = 0;
+            int soFar = 0;
             for (int set = 0; set < 1 << land.books(); set++) {
                 if ((set & bed.readBooks) == 0 && calmBehindSet(set) == v) {
-                    if (found == i) {
+                    if (soFar == i) {
                         return set;
                     }
-                    found++;
+                    soFar++;
                 }
             }
-            return i == NONE ? found : NONE;
+            return i == NONE ? soFar : NONE;
         }
 
         /** CALM behind all BOOKS of a set; NONE, if he would be too TIRED. */
@@ -1705,25 +1712,27 @@ public final class MonsterCot {
                     put(enoughs, x * 10 + y, enoughBehind(one, other, book, x, y) ? 1 : 0);
                 }
             }
-            int found = 0;
+            int soFar = 0;
             for (int x = 0; x <= pages; x++) {
                 for (int y = 0; y <= pages; y++) {
                     if (isRest(x, y, pages)) {
-                        if (found == i) {
+                        if (soFar == i) {
                             return x * 10 + y;
                         }
-                        found++;
+                        soFar++;
                     }
                 }
             }
-            return i == NONE ? found : NONE;
+            return i == NONE ? soFar : NONE;
         }
 
         boolean isRest(int x, int y, int pages) {
             int ofOne = gain(isEnough(x, y), x, y);
             int ofOther = gain(isEnough(x, y), y, x);
             for (int another = 0; another <= pages; another++) {
-                if (gain(isEnough(another, y), another, y) > ofOne || gain(isEnough(x, another), another, x) > ofOther) {
+                boolean oneHasMore = gain(isEnough(another, y), another, y) > ofOne;
+                boolean otherHasMore = gain(isEnough(x, another), another, x) > ofOther;
+                if (oneHasMore || otherHasMore) {
                     return false;
                 }
             }
@@ -1765,43 +1774,43 @@ public final class MonsterCot {
         }
 
         int fairest() {
-            int found = 0;
+            int soFar = 0;
             for (int house = 1; house < land.houses(); house++) {
-                found = at(bed.turns, house) < at(bed.turns, found) ? house : found;
+                soFar = at(bed.turns, house) < at(bed.turns, soFar) ? house : soFar;
             }
-            return found;
+            return soFar;
         }
 
         int strongest() {
-            int found = 0;
+            int soFar = 0;
             for (int house = 1; house < land.houses(); house++) {
-                found = ways.leftOf(bed, house) > ways.leftOf(bed, found) ? house : found;
+                soFar = ways.leftOf(bed, house) > ways.leftOf(bed, soFar) ? house : soFar;
             }
-            return found;
+            return soFar;
         }
 
         int loudest() {
-            int found = 0;
+            int soFar = 0;
             for (int house = 1; house < land.houses(); house++) {
-                found = at(bed.voices, house) > at(bed.voices, found) ? house : found;
+                soFar = at(bed.voices, house) > at(bed.voices, soFar) ? house : soFar;
             }
-            return found;
+            return soFar;
         }
 
         int fullest() {
-            int found = 0;
+            int soFar = 0;
             for (int house = 1; house < land.houses(); house++) {
-                found = land.childrenOf(house) > land.childrenOf(found) ? house : found;
+                soFar = land.childrenOf(house) > land.childrenOf(soFar) ? house : soFar;
             }
-            return found;
+            return soFar;
         }
 
         int longest() {
-            int found = 0;
+            int soFar = 0;
             for (int book = 1; book < land.books(); book++) {
-                found = land.pagesOf(book) > land.pagesOf(found) ? book : found;
+                soFar = land.pagesOf(book) > land.pagesOf(soFar) ? book : soFar;
             }
-            return found;
+            return soFar;
         }
 
         int freshKinds() {
