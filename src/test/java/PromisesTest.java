@@ -109,6 +109,15 @@ final class PromisesTest {
         faultIs(cot, 0, "bp100;h", 4);
         faultIs(cot, 0, "bp999;h", 4);
         faultIs(cot, 0, "bp1 0;h", 4);
+        faultIs(cot, 0, "bp001;h", 4);
+        faultIs(cot, 0, "bp1;h;sl31", 9);
+        faultIs(cot, 0, "bc10;h", 3);
+        faultIs(cot, 0, "bk4;h", 2);
+        faultIs(cot, 0, "b;hn10", 5);
+        faultIs(cot, 0, "b;hv10", 5);
+        faultIs(cot, 0, "b;h;se0", 6);
+        faultIs(cot, 0, "b;h;se00", 7);
+        faultIs(cot, 0, "b;h;sc000", 8);
         faultIs(cot, 0, "bp;h", 2);
         faultIs(cot, 0, "bp", 2);
         faultIs(cot, 0, "bp ", 3);
@@ -176,6 +185,20 @@ final class PromisesTest {
         faultIs(cot, 1, "y:!!!!!![c]=1?1", 8);
         faultIs(cot, 1, "y:1;y:(c=1&)?1", 11);
         faultIs(cot, 1, "y:e", 2);
+        faultIs(cot, 1, "y:c=1|?1", 6);
+        faultIs(cot, 1, "y:c=1&?1", 6);
+        faultIs(cot, 1, "y:c=1&|v=1?1", 6);
+        faultIs(cot, 1, "y:c+;y:1", 4);
+        faultIs(cot, 1, "y:c+=1?1", 4);
+        faultIs(cot, 1, "y:c*;y:1", 4);
+        faultIs(cot, 1, "y:c=?1", 4);
+        faultIs(cot, 1, "y:!?1", 3);
+        faultIs(cot, 1, "y:()?1", 3);
+        faultIs(cot, 1, "y:[]+1", 3);
+        faultIs(cot, 1, "y:((c=1)?1", 8);
+        faultIs(cot, 1, "y:[[c]+1", 8);
+        faultIs(cot, 1, "y:c=1?;y:1", 6);
+        faultIs(cot, 1, ";y:1", 0);
     }
 
     private void weekFaults() {
@@ -343,6 +366,9 @@ final class PromisesTest {
         worthIs("y:c=8?1;y:2", 2);
         worthIs("y:c=8?1", 0);
         worthIs("y:c=8?1;y:c>8?2;y:c<8?3;y:4", 3);
+        worthIs("y:c>7?1;y:2", 2);
+        worthIs("y:c<7?1;y:2", 2);
+        worthIs("y:0=c-7?0;y:2", 0);
         worthIs("y:4;y:c=7?1", 4);
         worthIs("y:!c=8?1;y:2", 1);
         worthIs("y:!!c=8?1;y:2", 2);
@@ -468,6 +494,13 @@ final class PromisesTest {
         due.is("count(8)", cot.count(8), 4);
         due.is("count(9)", cot.count(9), 3);
         due.is("0 TIRED at the least", Due.houseOf(cot, 1, 3), 0);
+        cot = Due.cot("sc99;bp1;bp1;bp1;bp1k1;hs40", "");
+        for (int book = 0; book < 4; book++) {
+            cot.read(book, 1, false);
+        }
+        cot.night();
+        due.is("3 BORED, then 2", cot.bored(0), 2);
+        due.is("1 BORED, then 0", cot.bored(1), 0);
         cot = Due.cot("sc25e25l30;b;h", "");
         due.is("just ENOUGH", cot.night(), 2);
         due.is("0 at the least", cot.rule(0), 0);
@@ -476,7 +509,8 @@ final class PromisesTest {
         }
         due.is("9,991", cot.count(6), 9991);
         due.is("years(9) beyond", cot.years(9, 1), NONE);
-        due.is("years(7)", cot.years(7, 1), 9998);
+        due.is("years(8)", cot.years(8, 1), 9999);
+        cot.undo();
         Due.keep(cot, 2, "n;m;n");
         due.is("RUN to 9,999", cot.run(0, 0), 2);
         due.is("quiet goes on", cot.quiet() >= 0, true);
@@ -497,6 +531,7 @@ final class PromisesTest {
 
     private void years() {
         due.part("17 years");
+        due.is("years(1)", Due.cot("b;h", "").years(1, 3), 1);
         MonsterCot cot = Due.cot("sc50;bp9c5k0;bp3c6k1;bp1c2k2;hs20;hn5s12v9", "");
         due.is("years(0)", cot.years(0, 1), NONE);
         due.is("years(31)", cot.years(31, 1), NONE);
@@ -637,6 +672,15 @@ final class PromisesTest {
         Due.keep(cot, 2, "g1;n;r74;n");
         due.is("run(2, 0)", cot.run(2, 0), 2);
         due.is("run(2, 1)", cot.run(2, 1), 0);
+        MonsterCot skips = Due.cot("sc50;bp9c1;bp9c1k1;hs40v0;h", "");
+        Due.keep(skips, 2, "r01;k12;k11;n");
+        Due.keep(skips, 2, "r01;k12;r11;n");
+        Due.keep(skips, 2, "k02;r11;g1;r11");
+        due.is("SKIPPED one of one", skips.run(0, 0), 2);
+        due.is("READ again", skips.run(1, 0), 2);
+        due.is("all but the last", skips.run(2, 0), 3);
+        due.is("perform(2)", skips.perform(2), 3);
+        due.is("50 and 1 less 5 and 1", skips.rule(0), 47);
         due.part("22 perform");
         due.is("perform(3)", cot.perform(3), NONE);
         due.is("perform(-1)", cot.perform(-1), NONE);
@@ -716,6 +760,7 @@ final class PromisesTest {
         due.is("best(6, 1)", cot.best(6, 1), NONE);
         due.is("best(0, 0)", cot.best(0, 0), NONE);
         due.is("best(10, 0)", cot.best(10, 0), NONE);
+        due.is("best(9, 0)", Due.cot("bp9;h", "").best(9, 0), 0);
         due.is("best(2, 2)", cot.best(2, 2), NONE);
         due.is("best(2, -1)", cot.best(2, -1), NONE);
         cot.read(1, 5, false);
@@ -752,6 +797,30 @@ final class PromisesTest {
         cot.night();
         cot.read(0, 4, false);
         due.is("TIRED ones rest: READ, 9 and 6", Due.houseOf(cot, 0, 3) * 10 + Due.houseOf(cot, 1, 3), 40);
+        cot = Due.cot("sc0e20l30;bp7c3;hn2s12v0;hn3s7v0", "");
+        cot.read(0, 6, false);
+        cot.night();
+        cot.night();
+        cot.read(0, 6, false);
+        cot.night();
+        // CALM 0; HOUSE 0 is 0 TIRED, HOUSE 1 0: 21 a NIGHT, less 30.
+        due.is("both sleep", cot.roster(0, 1), 5);
+        cot.read(0, 1, false);
+        // HOUSE 1 is 1 TIRED and can't read seven pages tonight, nor is the BOOK to be READ again.
+        due.is("the other one sleeps", cot.roster(0, 1), 3);
+        due.is("so it is the second", cot.roster(0, 0), 1);
+        cot = Due.cot("sc0e20l30;bp7c3;bk1;hn2s9v0;hn3s12v0", "");
+        cot.read(1, 3, false);
+        due.is("9 CALM", cot.rule(0), 9);
+        // 3 TIRED of 9: only behind a NIGHT can he read seven pages.
+        due.is("HOUSE 1 first: 9 and 21, then 21", cot.roster(0, 0), 10);
+        due.is("all five", cot.roster(0, 1), 5);
+        cot = Due.cot("sc0e7l30;bp7c0;hn2s40v0;hn3s40v0", "y:t=0?1;y:t=7?1");
+        cot.read(0, 7, false);
+        cot.night();
+        cot.goes(0);
+        // HOUSE 0 is 1 TIRED: 1 by t 7. TIRED 0 is 1, too.
+        due.is("nobody sleeps", cot.roster(0, 1), 0);
         due.is("a single one", Due.cot("sc0e12;b;hv3", "").roster(0, 0), 0);
         due.is("a single one sleeps", Due.cot("sc0e12;b;hv3", "").roster(0, 1), 2);
         // Six HOUSES, all sleep whatever the row: the least one.
@@ -789,6 +858,11 @@ final class PromisesTest {
         due.is("probe(0, 46)", cot.probe(0, 46), 1);
         due.is("probe(2, 10)", cot.probe(2, 10), NONE);
         due.is("probe(-1, 10)", cot.probe(-1, 10), NONE);
+        due.is("probe(0, 99), all alike", cot.probe(0, 99), 0);
+        due.is("probe(0, 0), all alike", cot.probe(0, 0), 0);
+        due.is("probe(0, 15), just v", cot.probe(0, 15), 0);
+        due.is("probe(0, 72), just v", cot.probe(0, 72), 1);
+        due.is("probe(0, 73)", cot.probe(0, 73), 0);
         due.is("probe(0, 100)", cot.probe(0, 100), NONE);
         due.is("probe(0, -1)", cot.probe(0, -1), NONE);
         due.part("27 seen, 28 likes, 29 probe");
@@ -807,7 +881,8 @@ final class PromisesTest {
         due.is("VOICE as now: 12", cot.likes(NONE), 0);
         due.is("probe, nothing fits", cot.probe(0, 10), NONE);
         cot.undo();
-        for (int i = 5; i <= 10; i++) {
+        due.is("seen of 99", cot.seen(0, 1, 0, 99, false), 5);
+        for (int i = 6; i <= 10; i++) {
             due.is("seen", cot.seen(0, 1, 0, 0, true), i);
         }
         due.is("an eleventh one", cot.seen(0, 1, 0, 0, true), NONE);
@@ -845,6 +920,8 @@ final class PromisesTest {
         due.is("which(15, 1)", cot.which(15, 1), 5);
         due.is("which(15, 2)", cot.which(15, 2), 6);
         due.is("which(17, NONE), too TIRED", cot.which(17, NONE), 0);
+        due.is("which(99, NONE)", cot.which(99, NONE), 0);
+        due.is("which(0, NONE)", cot.which(0, NONE), 0);
         due.is("which(100, NONE)", cot.which(100, NONE), NONE);
         due.is("which(-1, NONE)", cot.which(-1, NONE), NONE);
         due.is("which(13, -2)", cot.which(13, -2), NONE);
@@ -853,6 +930,11 @@ final class PromisesTest {
         due.is("which(15, 0), one READ", cot.which(15, 0), 1);
         due.is("which(15, 1), one READ", cot.which(15, 1), 4);
         due.is("which(13, 0), one READ", cot.which(13, 0), 0);
+        // TIRED goes on from BOOK to BOOK: 0 1, then 2 3 4.
+        cot = Due.cot("sc0;bp2c0;bp3c0;hs9", "y:t+p");
+        due.is("0 and 2", cot.which(2, 0), 1);
+        due.is("0, 2 and 4", cot.which(6, 0), 2);
+        due.is("0 and 2, 2, 4 and 6", cot.which(14, 0), 3);
     }
 
     private void games() {
@@ -936,6 +1018,15 @@ final class PromisesTest {
         cot.read(0, 1, false);
         due.is("READ, BORED 1 and 1: 24 and 3, 22 and 3 ..", cot.lasts(0), 4);
         due.is("nothing changed", cot.count(15), 1);
+        cot = Due.cot("sc9e10l1;bp5;h", "y:t=0?1;y:0-9");
+        due.is("TIRED 0 at each page", cot.lasts(0), 20);
+        due.is("as it is not in READ", cot.calms(0, 5), 0);
+        cot = Due.cot("sc60e10l0;bp1c0k3;bp1c0k3;bp1c0k3;h", "y:0-b");
+        cot.read(0, 1, false);
+        cot.read(1, 1, false);
+        cot.read(2, 1, false);
+        due.is("rule(0)", cot.rule(0), 57);
+        due.is("BORED stays as it was: 3 less each", cot.lasts(0), 15);
         cot = Due.cot("sc50e10l0;bp1c0;h", "y:0-n");
         due.is("n goes on: 50 less 1, 2 .. 8 is 14, less 9 is 5", cot.lasts(0), 9);
     }
@@ -962,6 +1053,8 @@ final class PromisesTest {
         due.is("all(-1)", cot.all(-1), NONE);
         cot.read(1, 1, false);
         cot.milk();
+        due.is("not yet ASLEEP", Due.cot("sc12e13;b;h", "").all(1), 0);
+        due.is("just ASLEEP", Due.cot("sc13e13;b;h", "").all(1), 1);
         due.is("ASLEEP", cot.all(1), 1);
         due.is("STRONGEST", cot.all(2), 1);
         due.is("FRESH", cot.all(6), 13);
