@@ -551,7 +551,7 @@ public final class MonsterCot {
             return true;
         }
 
-        static int bytesOf(int number) {
+        private static int bytesOf(int number) {
             int bytes = 0;
             for (int shift = 24; shift >= 0; shift -= 8) {
                 bytes += (number >>> shift & 255) != 0 ? 1 : 0;
@@ -559,7 +559,7 @@ public final class MonsterCot {
             return bytes;
         }
 
-        void add(int number) {
+        private void add(int number) {
             for (int shift = 24; shift >= 0; shift -= 8) {
                 int sign = number >>> shift & 255;
                 if (sign != 0 && size >= 0 && size < signs.length) {
@@ -578,7 +578,7 @@ public final class MonsterCot {
         }
 
         /** The sign at the mark, blanks or not: digits of a number must touch. */
-        char touching() {
+        private char touching() {
             return mark >= 0 && mark < size && mark < signs.length ? signs[mark] : END;
         }
 
@@ -637,7 +637,7 @@ public final class MonsterCot {
             return isDigit(touching()) ? NONE : value;
         }
 
-        static boolean isDigit(char sign) {
+        private static boolean isDigit(char sign) {
             return sign >= '0' && sign <= '9';
         }
     }
@@ -661,7 +661,7 @@ public final class MonsterCot {
             fillUsual(RULES, 0);
         }
 
-        void fillUsual(int group, int index) {
+        private void fillUsual(int group, int index) {
             for (int item = 0; item < ITEMS; item++) {
                 tell(group, index, item, at(USUAL, group * ITEMS + item));
             }
@@ -682,7 +682,7 @@ public final class MonsterCot {
             put(numbers, at(FIRST, group) + index * ITEMS + item, value);
         }
 
-        int told(int group, int index, int item) {
+        private int told(int group, int index, int item) {
             return at(numbers, at(FIRST, group) + index * ITEMS + item);
         }
 
@@ -777,7 +777,7 @@ public final class MonsterCot {
             return false;
         }
 
-        boolean takeClause() {
+        private boolean takeClause() {
             int group = "sbh".indexOf(tape.sign());
             int index = group < 0 ? NONE : draft.open(group);
             if (index < 0) {
@@ -801,7 +801,7 @@ public final class MonsterCot {
             return true;
         }
 
-        boolean takeItem(int group, int index, int item) {
+        private boolean takeItem(int group, int index, int item) {
             int value = tape.takeNumber(2);
             if (value < 0) {
                 return false;
@@ -845,7 +845,7 @@ public final class MonsterCot {
             return false;
         }
 
-        boolean takeClause() {
+        private boolean takeClause() {
             if (!tape.take('y') || !tape.take(':')) {
                 return false;
             }
@@ -871,7 +871,7 @@ public final class MonsterCot {
         }
 
         /** begun: its first SUM has been taken, as it could have been the SUM of a CLAUSE. */
-        boolean takeCondition(int depth, boolean begun) {
+        private boolean takeCondition(int depth, boolean begun) {
             if (!takeTruth(depth, begun)) {
                 return false;
             }
@@ -884,7 +884,7 @@ public final class MonsterCot {
             return true;
         }
 
-        boolean takeTruth(int depth, boolean begun) {
+        private boolean takeTruth(int depth, boolean begun) {
             if (!takeUnit(depth, begun)) {
                 return false;
             }
@@ -897,7 +897,7 @@ public final class MonsterCot {
             return true;
         }
 
-        boolean takeUnit(int depth, boolean begun) {
+        private boolean takeUnit(int depth, boolean begun) {
             char first = tape.sign();
             if (!begun && (first == '!' || first == '(')) {
                 return takeInnerUnit(first, depth);
@@ -913,7 +913,7 @@ public final class MonsterCot {
             return true;
         }
 
-        boolean takeInnerUnit(char first, int depth) {
+        private boolean takeInnerUnit(char first, int depth) {
             if (depth >= DEEPEST) {
                 return false;
             }
@@ -928,7 +928,7 @@ public final class MonsterCot {
             return true;
         }
 
-        boolean takeSum(int depth) {
+        private boolean takeSum(int depth) {
             if (!takeTerm(depth)) {
                 return false;
             }
@@ -945,7 +945,7 @@ public final class MonsterCot {
             return false;
         }
 
-        boolean takeTerm(int depth) {
+        private boolean takeTerm(int depth) {
             if (!takeAtom(depth)) {
                 return false;
             }
@@ -962,7 +962,7 @@ public final class MonsterCot {
             return false;
         }
 
-        boolean takeAtom(int depth) {
+        private boolean takeAtom(int depth) {
             if (tape.sign() == '[') {
                 if (depth >= DEEPEST) {
                     return false;
@@ -983,7 +983,7 @@ public final class MonsterCot {
             return true;
         }
 
-        void order(int order) {
+        private void order(int order) {
             put(orders, size, order);
             size++;
         }
@@ -1051,6 +1051,7 @@ public final class MonsterCot {
             if (held < 0) {
                 return within(LEAST_WORTH, calming + voice / 3 - bored, MOST_WORTH);
             }
+            // Each number has a place of its own: TIRED is 40 and nine pages of a GAME at the most, a NIGHT 10,019.
             long people = ((held * 10L + calming) * 10 + voice) * 64 + tired;
             long key = ((people * 10 + bored) * 10 + page) * 16384 + night;
             int slot = (int) (key * MIX >>> 64 - KEPT_BITS);
@@ -1070,7 +1071,7 @@ public final class MonsterCot {
             return (int) (kept[slot] & 31) - 10;
         }
 
-        int worthByLaw() {
+        private int worthByLaw() {
             if (held < 0 || held >= orders.length) {
                 return 0;
             }
@@ -1099,7 +1100,7 @@ public final class MonsterCot {
             return 0;
         }
 
-        static int reckon(int order, int left, int right) {
+        private static int reckon(int order, int left, int right) {
             long result;
             if (order == PLUS) {
                 result = (long) left + right;
@@ -1113,7 +1114,7 @@ public final class MonsterCot {
             return result > FARTHEST ? FARTHEST : result < -FARTHEST ? -FARTHEST : (int) result;
         }
 
-        static boolean compare(int order, int left, int right) {
+        private static boolean compare(int order, int left, int right) {
             switch (order) {
                 case EQUAL:
                     return left == right;
@@ -1128,14 +1129,14 @@ public final class MonsterCot {
             }
         }
 
-        void push(int value) {
+        private void push(int value) {
             if (top >= 0 && top < stack.length) {
                 stack[top] = value;
                 top++;
             }
         }
 
-        int pop() {
+        private int pop() {
             if (top < 1 || top > stack.length) {
                 return 0;
             }
@@ -1183,7 +1184,7 @@ public final class MonsterCot {
             return false;
         }
 
-        boolean takeStep(int i) {
+        private boolean takeStep(int i) {
             int sort = tape.takeOneOf("rkmng");
             if (sort < 0) {
                 return false;
@@ -1361,7 +1362,7 @@ public final class MonsterCot {
             bed.readBooks |= 1 << book;
         }
 
-        static void bore(Bed bed, int kind) {
+        private static void bore(Bed bed, int kind) {
             put(bed.bored, kind, moreBored(at(bed.bored, kind)));
         }
 
@@ -1577,7 +1578,7 @@ public final class MonsterCot {
         }
 
         /** Rows with one BOOK more than that one, by which CALM is not ENOUGH yet. */
-        void growRow(int length, int used, int ahead, int pagesAhead, int calmAhead) {
+        private void growRow(int length, int used, int ahead, int pagesAhead, int calmAhead) {
             for (int book = 0; book < land.books(); book++) {
                 if (((used | bed.readBooks) >> book & 1) == 0) {
                     growRowBy(book, length, used | 1 << book, ahead, pagesAhead, calmAhead);
@@ -1585,7 +1586,7 @@ public final class MonsterCot {
             }
         }
 
-        void growRowBy(int book, int length, int used, int ahead, int pagesAhead, int calmAhead) {
+        private void growRowBy(int book, int length, int used, int ahead, int pagesAhead, int calmAhead) {
             int calming = land.calmingOf(book);
             int kind = land.kindOf(book);
             int before = at(bored, kind);
@@ -1610,12 +1611,7 @@ public final class MonsterCot {
             }
         }
 
-        int worthInRow(int book, int page, int pagesAhead) {
-            int tired = at(bed.tired, bed.where) + pagesAhead + page;
-            return ways.worthOf(book, page, at(bed.voices, bed.where), at(bored, land.kindOf(book)), bed.night, tired);
-        }
-
-        void offerRow(int newRow, int together) {
+        private void offerRow(int newRow, int together) {
             if (together < most || together == most && newRow < found) {
                 most = together;
                 found = newRow;
@@ -1630,7 +1626,7 @@ public final class MonsterCot {
         }
 
         /** Rosters with one HOUSE more, the lowest first, so that the first of the best ones is the least. */
-        void growRoster(int nights, int used, int ahead, int sleptAhead, int calmAhead, int boredAhead) {
+        private void growRoster(int nights, int used, int ahead, int sleptAhead, int calmAhead, int boredAhead) {
             if (nights >= land.houses()) {
                 if (sleptAhead > most) {
                     most = sleptAhead;
@@ -1670,22 +1666,24 @@ public final class MonsterCot {
         }
 
         /** CALM behind all BOOKS of a set; NONE, if he would be too TIRED. */
-        int calmBehindSet(int set) {
+        private int calmBehindSet(int set) {
             copy(bed.bored, bored);
+            int voice = at(bed.voices, bed.where);
+            int tired = at(bed.tired, bed.where);
             int calm = bed.calm;
-            int pagesAhead = 0;
             for (int book = 0; book < land.books(); book++) {
                 if ((set >> book & 1) != 0) {
                     int pages = land.pagesOf(book);
-                    for (int page = 0; page < pages; page++) {
-                        calm = heldCalm(calm + worthInRow(book, page, pagesAhead));
+                    if (tired + pages > land.strengthOf(bed.where)) {
+                        return NONE;
                     }
                     int kind = land.kindOf(book);
+                    calm = ways.calmBehind(calm, book, pages, voice, at(bored, kind), bed.night, tired);
                     put(bored, kind, Ways.moreBored(at(bored, kind)));
-                    pagesAhead += pages;
+                    tired += pages;
                 }
             }
-            return pagesAhead <= ways.leftOf(bed, bed.where) ? calm : NONE;
+            return calm;
         }
 
         boolean enoughBehind(int one, int other, int book, int x, int y) {
@@ -1726,7 +1724,7 @@ public final class MonsterCot {
             return i == NONE ? soFar : NONE;
         }
 
-        boolean isRest(int x, int y, int pages) {
+        private boolean isRest(int x, int y, int pages) {
             int ofOne = gain(isEnough(x, y), x, y);
             int ofOther = gain(isEnough(x, y), y, x);
             for (int another = 0; another <= pages; another++) {
@@ -1739,7 +1737,7 @@ public final class MonsterCot {
             return true;
         }
 
-        boolean isEnough(int x, int y) {
+        private boolean isEnough(int x, int y) {
             return at(enoughs, x * 10 + y) != 0;
         }
 
@@ -1866,7 +1864,7 @@ public final class MonsterCot {
         }
 
         /** CALM behind a reading such as is SEEN, if that taste was its own. */
-        int calmBy(int taste, int book, int pages, int house) {
+        private int calmBy(int taste, int book, int pages, int house) {
             int more = land.kindOf(book) == taste ? LIKED_MORE : 0;
             int voice = at(bed.voices, house);
             int calm = 0;
@@ -1877,7 +1875,7 @@ public final class MonsterCot {
             return calm;
         }
 
-        boolean fits(int taste) {
+        private boolean fits(int taste) {
             for (int i = 0; i < size; i++) {
                 int row = i * COLUMNS;
                 int calm = calmBy(taste, at(rows, row), at(rows, row + 1), at(rows, row + 2));
@@ -1920,7 +1918,7 @@ public final class MonsterCot {
         }
 
         /** How far apart in number those tastes are by whom CALM is v or more and the others. */
-        int apartBy(int fitting, int book, int house, int v) {
+        private int apartBy(int fitting, int book, int house, int v) {
             int apart = 0;
             for (int taste : TASTES) {
                 if ((fitting >> taste & 1) != 0) {

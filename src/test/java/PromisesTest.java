@@ -33,6 +33,7 @@ final class PromisesTest {
         test.rosters();
         test.likings();
         test.whichSets();
+        test.whichFarTooTired();
         test.games();
         test.odds();
         test.lasting();
@@ -226,6 +227,11 @@ final class PromisesTest {
         due.is("the TAPE is kept", cot.count(4), 2);
         due.is("text(-1)", cot.text(-1), NONE);
         due.is("text(3)", cot.text(3), NONE);
+        Due.type(cot, "m");
+        due.is("text(3) of a right WEEK", cot.text(3), NONE);
+        due.is("text(-1) of a right WEEK", cot.text(-1), NONE);
+        due.is("text(0) of a right WEEK", cot.text(0), NONE);
+        due.is("no WEEK yet", cot.count(3), 0);
         due.is("text(0)", Due.keep(cot, 0, "b;h;h;h"), 3);
         due.is("the TAPE is empty", cot.count(4), 0);
         for (int i = 0; i < 4; i++) {
@@ -935,6 +941,25 @@ final class PromisesTest {
         due.is("0 and 2", cot.which(2, 0), 1);
         due.is("0, 2 and 4", cot.which(6, 0), 2);
         due.is("0 and 2, 2, 4 and 6", cot.which(14, 0), 3);
+    }
+
+    /** Sets for which he would be far too TIRED must leave nothing behind that another page is taken for. */
+    private void whichFarTooTired() {
+        due.part("30 which, far too TIRED");
+        String books = "bp9c0k0;bp9c0k1;bp9c0k2;bp9c0k3;bp9c0k0;bp9c0k1";
+        MonsterCot cot = Due.cot("sc0e1l30;" + books + ";hs40v0;hs40v1", "y:t");
+        for (int book = 0; book < 4; book++) {
+            cot.read(book, 9, false);
+        }
+        cot.goes(1);
+        cot.night();
+        due.is("30 TIRED", Due.houseOf(cot, 0, 3), 30);
+        due.is("69 CALM", cot.rule(0), 69);
+        due.is("one set", cot.which(69, NONE), 1);
+        cot.goes(1);
+        cot.read(0, 2, false);
+        due.is("70 CALM", cot.rule(0), 70);
+        due.is("2 by the next page", cot.calms(4, 1), 72);
     }
 
     private void games() {
