@@ -56,14 +56,18 @@ final class AgainstPlainTest {
 
     private void oneRun(int run) {
         fresh();
-        big = run % 40 == 0;
+        big = run % 25 == 0;
         int before = wrong;
         int calls = 20 + random.nextInt(200);
-        if (random.nextInt(10) != 0) {
+        boolean late = run % 100 == 7;
+        if (late || random.nextInt(10) != 0) {
             land();
         }
+        if (late) {
+            lateNights();
+        }
         for (int i = 0; i < calls && wrong == before; i++) {
-            int what = random.nextInt(100);
+            int what = late ? 5 + random.nextInt(95) : random.nextInt(100);
             if (what < 2) {
                 land();
             } else if (what < 5) {
@@ -85,6 +89,17 @@ final class AgainstPlainTest {
             }
         }
         lookAround();
+    }
+
+    /** Near to the last NIGHT, with a LAW by which the NIGHT matters. */
+    private void lateNights() {
+        type("y:n>9999?c-n+9999;y:v-t+n-9995");
+        ask("text", 1);
+        ask("law", 0);
+        for (int i = 0; i < 333; i++) {
+            ask("years", 30, (long) i);
+        }
+        ask("years", 1 + random.nextInt(9), 1L);
     }
 
     private void land() {
