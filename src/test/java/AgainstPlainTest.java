@@ -6,6 +6,8 @@ import java.util.Random;
 
 /** Many random runs of calls, each call asked of MonsterCot and of PlainCot. */
 final class AgainstPlainTest {
+    /** What an object answers beyond so many calls is free. */
+    private static final int MOST_CALLS = 512;
     private static final String[] CALLS = {
         "feed", "end", "fault", "text", "rule", "tome", "house", "bored", "law", "hush", "read", "milk", "goes",
         "voice", "night", "years", "undo", "log", "step", "run", "perform", "calms", "least", "best", "roster", "seen",
@@ -19,6 +21,7 @@ final class AgainstPlainTest {
     private PlainCot plain;
     private boolean big;
     private int wrong;
+    private int made;
     private long asked;
     private StringBuilder story = new StringBuilder();
 
@@ -33,7 +36,7 @@ final class AgainstPlainTest {
     }
 
     public static void main(String[] args) {
-        int runs = args.length > 0 ? Integer.parseInt(args[0]) : 600;
+        int runs = args.length > 0 ? Integer.parseInt(args[0]) : 900;
         long seed = args.length > 1 ? Long.parseLong(args[1]) : 20261118;
         AgainstPlainTest test = new AgainstPlainTest(seed);
         for (int run = 0; run < runs && test.wrong < 3; run++) {
@@ -51,6 +54,7 @@ final class AgainstPlainTest {
     private void fresh() {
         cot = new MonsterCot();
         plain = new PlainCot();
+        made = 0;
         story = new StringBuilder();
     }
 
@@ -66,7 +70,7 @@ final class AgainstPlainTest {
         if (late) {
             lateNights();
         }
-        for (int i = 0; i < calls && wrong == before; i++) {
+        for (int i = 0; i < calls && wrong == before && made < MOST_CALLS; i++) {
             int what = late ? 5 + random.nextInt(95) : random.nextInt(100);
             if (what < 2) {
                 land();
@@ -84,7 +88,7 @@ final class AgainstPlainTest {
             } else {
                 any();
             }
-            if (i % 8 == 0) {
+            if (i % 16 == 0) {
                 lookAround();
             }
         }
@@ -193,10 +197,9 @@ final class AgainstPlainTest {
 
     /** Faults of texts alone, spoilt ones most of all. */
     private void manyTexts(int many) {
-        fresh();
         for (int i = 0; i < many && wrong == 0; i++) {
             String text = i % 3 == 0 ? landing() : i % 3 == 1 ? law() : week();
-            story = new StringBuilder();
+            fresh();
             for (int spoilt = random.nextInt(4); spoilt > 0; spoilt--) {
                 text = spoil(text);
             }
@@ -233,6 +236,10 @@ final class AgainstPlainTest {
     }
 
     private void ask(String call, Object... args) {
+        if (made >= MOST_CALLS) {
+            return;
+        }
+        made++;
         Object got = answer(ofCot.get(call), cot, args);
         Object due = answer(ofPlain.get(call), plain, args);
         asked++;

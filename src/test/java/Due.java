@@ -24,6 +24,14 @@ final class Due {
         }
     }
 
+    void is(String call, String got, String want) {
+        asked++;
+        if (!got.equals(want)) {
+            wrong++;
+            System.out.println(part + ": " + call + " answered\n  " + got + "\n  due is\n  " + want);
+        }
+    }
+
     void is(String call, boolean got, boolean want) {
         is(call, got ? 1 : 0, want ? 1 : 0);
     }
@@ -75,7 +83,7 @@ final class Due {
         if (keep(cot, 0, landing) < 1) {
             throw new IllegalArgumentException("a wrong landing in a test: " + landing);
         }
-        if (!law.isEmpty() && !cot.law(keep(cot, 1, law))) {
+        if (!law.isEmpty() && (keep(cot, 1, law) != 0 || !cot.law(0))) {
             throw new IllegalArgumentException("a wrong law in a test: " + law);
         }
         return cot;
