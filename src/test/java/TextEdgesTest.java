@@ -469,6 +469,17 @@ final class TextEdgesTest {
             worthIs("y:c>" + number + "?1;y:2", 7 > number ? 1 : 2);
             worthIs("y:c=" + number + "?1;y:2", 7 == number ? 1 : 2);
         }
+        due.part("CONDITION: as deep as may be");
+        String ahead = "c=0|c=7&(";
+        worthIs("y:" + times(ahead, 6, "") + "c+0=7+0*1" + times(")", 6, "") + "?5;y:6", 5);
+        worthIs("y:" + times(ahead, 6, "") + "c+0=8+0*1" + times(")", 6, "") + "?5;y:6", 6);
+        // 1 and 2 by 3 is 7, 1 and 2 by that 15, 1 and 2 by that 31.
+        worthIs("y:" + times(ahead, 3, "") + "1+2*[1+2*[1+2*[3]]]=31)))?5;y:6", 5);
+        worthIs("y:" + times(ahead, 3, "") + "31=1+2*[1+2*[1+2*[3]]])))?5;y:6", 5);
+        worthIs("y:63-1*[1+1*[1+1*[1+1*[1+1*[1+1*[50]]]]]]", 8);
+        worthIs("y:!!!!!!c=7?5;y:6", 5);
+        worthIs("y:!!!!!c=7?5;y:6", 6);
+        due.part("CONDITION: below 0");
         worthIs("y:0-1<0?1;y:2", 1);
         worthIs("y:0>0-1?1;y:2", 1);
     }
