@@ -36,6 +36,9 @@ final class AgainstPlainTest {
     }
 
     public static void main(String[] args) {
+        if (args.length == 0) {
+            Due.failIfItGoesOn();
+        }
         int runs = args.length > 0 ? Integer.parseInt(args[0]) : 900;
         long seed = args.length > 1 ? Long.parseLong(args[1]) : 20261118;
         AgainstPlainTest test = new AgainstPlainTest(seed);

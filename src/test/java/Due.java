@@ -8,9 +8,30 @@ final class Due {
     /** What houseOf answers where house throws. */
     static final int THROWN = -2000000;
 
+    private static final int MOST_SECONDS = 300;
+
     private int wrong;
     private int asked;
     private String part = "";
+
+    Due() {
+        failIfItGoesOn();
+    }
+
+    /** A call that does not end is a fault, too: the test fails then. */
+    static void failIfItGoesOn() {
+        Thread watch = new Thread(() -> {
+            try {
+                Thread.sleep(MOST_SECONDS * 1000L);
+            } catch (InterruptedException e) {
+                return;
+            }
+            System.out.println("a call does not end");
+            Runtime.getRuntime().halt(1);
+        });
+        watch.setDaemon(true);
+        watch.start();
+    }
 
     void part(String name) {
         part = name;

@@ -817,6 +817,7 @@ final class TextEdgesTest {
         due.is("pages(0)", cot.pages(0), 1);
         due.is("probe(0, 3)", cot.probe(0, 3), 0);
         due.is("probe(0, 10)", cot.probe(0, 10), 0);
+        due.is("probe(0, 90)", cot.probe(0, 90), 0);
         due.is("best(1, 1)", cot.best(1, 1), 0);
         due.is("best(2, 0)", cot.best(2, 0), NONE);
         due.is("least(0)", cot.least(0), NONE);
