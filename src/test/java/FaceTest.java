@@ -11,6 +11,7 @@ import java.util.TreeSet;
 import java.util.regex.Matcher;
 import java.util.regex.Pattern;
 import java.util.stream.Collectors;
+import java.util.stream.Stream;
 
 /** The public face as the document tells it, and rules of LANGUAGE.md that can be looked at. */
 final class FaceTest {
@@ -25,13 +26,19 @@ final class FaceTest {
         "int lasts(int)", "int quiet()", "int all(int)", "int pages(int)", "int left(int)", "int image()",
         "int back()", "int count(int)"};
 
+    /** The line at which a method or a constructor begins. */
+    private static final String METHOD = " {4}(?: {4})?(?! |if |for |while |switch )[\\w\\[\\] ]+\\(.*\\{";
+
     private final Due due = new Due();
 
     public static void main(String[] args) throws IOException {
         FaceTest test = new FaceTest();
         test.face();
         test.classesInside();
+        test.namesInside();
+        test.staticFields();
         test.source();
+        test.newObjects();
         test.due.end();
     }
 
@@ -93,12 +100,58 @@ final class FaceTest {
         }
     }
 
+    private void namesInside() {
+        due.part("names inside");
+        Set<String> open = Arrays.stream(MonsterCot.class.getMethods()).map(Method::getName)
+                .collect(Collectors.toSet());
+        for (Class<?> inside : MonsterCot.class.getDeclaredClasses()) {
+            for (Method m : inside.getDeclaredMethods()) {
+                holds(m + " has a name of its own", !open.contains(m.getName()));
+            }
+        }
+    }
+
+    private void staticFields() {
+        due.part("static fields");
+        Set<Class<?>> allowed = Set.of(int.class, long.class, boolean.class, char.class, String.class, int[].class,
+                long[].class, char[].class, byte[].class);
+        Stream<Class<?>> all = Stream.concat(Stream.of(MonsterCot.class),
+                Arrays.stream(MonsterCot.class.getDeclaredClasses()));
+        all.flatMap(one -> Arrays.stream(one.getDeclaredFields())).filter(f -> Modifier.isStatic(f.getModifiers()))
+                .forEach(f -> holds(f + " is a constant", Modifier.isFinal(f.getModifiers())
+                        && allowed.contains(f.getType())));
+    }
+
+    private static String wholeSource() throws IOException {
+        return Files.readString(Path.of("src/main/java/MonsterCot.java"), StandardCharsets.ISO_8859_1);
+    }
+
+    /** Without comments and what stands in texts. */
+    private static String code() throws IOException {
+        return wholeSource().replaceAll("(?s)/\\*.*?\\*/", "").replaceAll("//[^\n]*", "")
+                .replaceAll("\"[^\"\n]*\"", "\"\"");
+    }
+
+    /** All calls of a run live in one room, so nothing is made but in constructors (and what house throws). */
+    private void newObjects() throws IOException {
+        due.part("new objects");
+        boolean constructing = true;
+        for (String line : code().split("\n")) {
+            if (line.matches(METHOD)) {
+                constructing = line.matches(" +(?:public )?[A-Z]\\w*\\(.*");
+            }
+            if (line.matches(".*\\bnew\\b.*")) {
+                boolean field = line.matches(" +(?:private )?final \\S+ \\w+ = new .*");
+                boolean thrown = line.contains("throw new NoSuchElementException(");
+                holds("made in a constructor: " + line.trim(), constructing || field || thrown);
+            }
+        }
+    }
+
     private void source() throws IOException {
         due.part("the source");
-        String whole = Files.readString(Path.of("src/main/java/MonsterCot.java"), StandardCharsets.ISO_8859_1);
-        holds("signs 1 to 127 alone", whole.chars().allMatch(sign -> sign > 0 && sign < 128));
-        String code = whole.replaceAll("(?s)/\\*.*?\\*/", "").replaceAll("//[^\n]*", "")
-                .replaceAll("\"[^\"\n]*\"", "\"\"");
+        holds("signs 1 to 127 alone", wholeSource().chars().allMatch(sign -> sign > 0 && sign < 128));
+        String code = code();
         Matcher imports = Pattern.compile("import ([\\w.]+);").matcher(code);
         while (imports.find()) {
             holds("import " + imports.group(1), Set.of("java.util.NoSuchElementException", "java.util.Arrays")
@@ -117,7 +170,7 @@ final class FaceTest {
         int line = 0;
         for (String text : code.split("\n")) {
             line++;
-            if (text.matches(" {4}(?: {4})?[\\w\\[\\]<> ]+\\(.*\\{")) {
+            if (text.matches(METHOD)) {
                 from = line;
             }
             if (text.matches(" {4}(?: {4})?}")) {
